@@ -161,17 +161,13 @@ public final class BillWatch {
         if (!isService(s) || !isTold(hour)) {
             return NONE;
         }
-        boolean found = seasons.find(s, hour);
-        switch (what) {
-            case 0:
-                return found ? seasons.expected() : NONE;
-            case 1:
-                return found ? seasons.spread() : NONE;
-            case 2:
-                return isJump(s, hour) ? 1 : 0;
-            default:
-                return NONE;
+        if (what == 2) {
+            return isJump(s, hour) ? 1 : 0;
         }
+        if (what < 0 || what > 2 || !seasons.find(s, hour)) {
+            return NONE;
+        }
+        return what == 0 ? seasons.expected() : seasons.spread();
     }
 
     public int creeps(int s) {

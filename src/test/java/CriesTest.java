@@ -6,6 +6,7 @@ public final class CriesTest {
         theDearestOfTheNewest(due);
         aMachineOf23HoursAhead(due);
         whatRanInTheHour(due);
+        theLastOfForty(due);
         onceForOneCause(due);
         sixHoursAgo(due);
         anotherCause(due);
@@ -88,6 +89,17 @@ public final class CriesTest {
         x.hours(1);
         facts(due, x, 1, 3, -1, 73, 73, 1);
         facts(due, x, 0, 3, 1, 72, 72, 1);
+    }
+
+    private static void theLastOfForty(Due due) {
+        BillWatch x = calm();
+        for (int m = 0; m < 39; m++) {
+            x.begin(m % 6, 1);
+        }
+        x.begin(5, 999);
+        x.hours(1);
+        due.is("look(3)", x.look(3), 1);
+        facts(due, x, 0, 5, 39, 72, 72, 1);
     }
 
     private static void onceForOneCause(Due due) {

@@ -65,6 +65,9 @@ public final class LaidTest {
         laidNow(due, x, 0, 4, 4, 3);
         due.yes("share(1, 0, 0, 0, 9)", x.share(1, 0, 0, 0, 9));
         laidNow(due, x, 0, 0, 0, 11);
+        due.yes("share(1, 1, 1, 1, 3)", x.share(1, 1, 1, 1, 3));
+        // sixths: 11 (rest 5) three times, 33 (rest 3); three units are left
+        laidNow(due, x, 2, 2, 2, 5);
         due.yes("share(1, 9, 9, 9, 9)", x.share(1, 9, 9, 9, 9));
         laidNow(due, x, 3, 3, 3, 2);
         x.hours(1);

@@ -138,6 +138,7 @@ public final class SeasonTest {
         due.is("111 is", days(3, 100, 101, 102, 103, 104, 105, 111).creeps(3), 1);
         due.is("116 is above 115.5", days(3, 105, 106, 107, 108, 109, 110, 116).creeps(3), 1);
         due.is("115 is not", days(3, 105, 106, 107, 108, 109, 110, 115).creeps(3), 0);
+        due.is("32 is above 31.9", days(3, 29, 29, 30, 30, 31, 31, 32).creeps(3), 1);
         due.is("from nothing on", days(3, 0, 1, 2, 3, 4, 5, 6).creeps(3), 1);
     }
 
