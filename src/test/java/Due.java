@@ -1,13 +1,21 @@
 /** Compares answers with those that are due, and ends the test's run. */
 final class Due {
+    private final Document document = new Document();
+    private String sentence = "";
     private int asked;
     private int wrong;
+
+    /** What follows holds to these words, which stand under this heading of the document. */
+    void says(String heading, String words) {
+        sentence = heading + ", \"" + words + "\": ";
+        yes("the document says so", document.says(heading, words));
+    }
 
     void is(String call, long got, long want) {
         asked++;
         if (got != want) {
             wrong++;
-            System.out.println(call + " answered " + got + ", due is " + want);
+            System.out.println(sentence + call + " answered " + got + ", due is " + want);
         }
     }
 

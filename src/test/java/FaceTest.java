@@ -74,17 +74,28 @@ public final class FaceTest {
             int flags = c.getModifiers();
             due.yes(c + " is static", Modifier.isStatic(flags));
             due.no(c + " is public or protected", Modifier.isPublic(flags) || Modifier.isProtected(flags));
+            long fields = Arrays.stream(c.getDeclaredFields()).filter(f -> !Modifier.isStatic(f.getModifiers())).count();
+            due.yes(c + " has twenty fields at most", fields <= 20);
+            noLambdaAndFewParameters(due, c);
+        }
+        noLambdaAndFewParameters(due, BillWatch.class);
+    }
+
+    private static void noLambdaAndFewParameters(Due due, Class<?> c) {
+        for (Method m : c.getDeclaredMethods()) {
+            due.no(m + " is a lambda", m.getName().startsWith("lambda$"));
+            due.yes(m + " takes seven at most", m.getParameterCount() <= 7);
         }
     }
 
     private static void theText(Due due) throws IOException {
         String text = Files.readString(Path.of("src/main/java/BillWatch.java"));
         String code = text.replaceAll("(?s)/\\*.*?\\*/", " ").replaceAll("//[^\n]*", " ");
-        String[] words = {"throw", "throws", "try", "catch", "synchronized", "assert", "import", "package",
-            "Exact", "protected", "Object", "System", "Random", "Thread"};
+        String[] words = {"throw", "throws", "try", "catch", "synchronized", "assert", "package", "protected",
+            "Random", "Thread", "\\w+Exact", "currentTimeMillis", "nanoTime"};
         for (String word : words) {
             due.no("the word " + word, code.matches("(?s).*\\b" + word + "\\b.*"));
         }
-        due.no("a lambda, method reference or text", code.contains("->") || code.contains("::") || code.contains("\""));
+        due.no("a method reference", code.contains("::"));
     }
 }
