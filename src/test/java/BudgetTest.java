@@ -269,6 +269,16 @@ public final class BudgetTest {
         y.owner(1, 3);
         y.budget(3, 100, 0, 4);
         budget(due, y, 3, 100, 14, -1, -1, 14 + 2 * 6, 14 + 2 * 8);
+        BillWatch less = new BillWatch();
+        less.use(0, 3);
+        less.hours(1);
+        less.use(0, 4);
+        less.share(0, 0, 1, 3, 3);
+        less.budget(1, 100, 0, 4);
+        less.budget(2, 100, 0, 4);
+        // sevenths of 3: 3 (rest 3), 9 (rest 2) twice: 1 1 1; of 4: 4 (rest 4), 12 (rest 5) twice: 0 2 2
+        budget(due, less, 1, 100, 1, -1, -1, 1 + 2 * 1, 1 + 2 * 0);
+        budget(due, less, 2, 100, 3, -1, -1, 3 + 2 * 1, 3 + 2 * 2);
     }
 
     private static void theFirstHour(Due due) {
