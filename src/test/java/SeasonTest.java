@@ -14,6 +14,7 @@ public final class SeasonTest {
         theEdgeOfAJump(due);
         floorsFrom0To9999(due);
         anHourThatIsOverOrNow(due);
+        byTheFloorAsItIsNow(due);
         seasonOfAnHour(due);
         noJumpWithoutASeason(due);
         noSuchSeason(due);
@@ -177,6 +178,26 @@ public final class SeasonTest {
         x.hours(23);
         due.is("the jump counts in the season of the day behind it", x.season(5, 96, 1), 0);
         due.is("expected of 6 6 6 17", x.season(5, 96, 0), 6);
+    }
+
+    private static void byTheFloorAsItIsNow(Due due) {
+        due.says("Terms", "A JUMP: the COST of an HOUR that is over (or now) is above EXPECTED and 3 times SPREAD and "
+                + "FLOOR (0 .. 9999, 10 at first) together.");
+        BillWatch x = days(1, 20, 20, 20);
+        x.use(1, 40);
+        x.hours(30);
+        due.is("40 in an hour that is over, at floor 10", x.season(1, 72, 2), 1);
+        due.is("it was cried", x.look(3), 1);
+        x.floor(20);
+        due.is("at floor 20", x.season(1, 72, 2), 0);
+        due.is("the cry stays", x.look(3), 1);
+        x.floor(19);
+        due.is("at floor 19", x.season(1, 72, 2), 1);
+        due.no("floor(10000)", x.floor(10000));
+        due.is("a floor that is refused changes nothing", x.season(1, 72, 2), 1);
+        due.is("nor is it cried again", x.look(3), 1);
+        due.is("expected is the same at every floor", x.season(1, 72, 0), 20);
+        due.is("and so is spread", x.season(1, 72, 1), 0);
     }
 
     private static void seasonOfAnHour(Due due) {
